@@ -577,6 +577,7 @@ public final class Plotwise {
             return isColumn(column) ? gaps[column] : 0;
         }
 
+        /** Whether a column of this kind has nothing to show, so that no allowed chart has it. */
         static boolean isDullKind(int kind) {
             return kind == EMPTY || kind == CONSTANT;
         }
@@ -1034,7 +1035,7 @@ public final class Plotwise {
             allowedCount = 0;
             betterCount = 0;
             for (int placement : placements) {
-                // a dull column is not allowed with any mark or aggregate
+                // with a dull column the hard rule 2 is broken, whatever the mark and the aggregate are
                 if (!hardRules.hasDullColumn(placement)) {
                     tryPlacement(placement, compared);
                 }
