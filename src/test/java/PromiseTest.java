@@ -1,145 +1,35 @@
 import java.util.Arrays;
-import java.util.NoSuchElementException;
-import java.util.Objects;
-import java.util.concurrent.Callable;
 
 /** Each promise of the document by hand: ordinary inputs, the edges that it names, and wrong inputs. */
-public final class PromiseTest {
-    private static final int GAP = Plotwise.MISSING;
-    private static int wrong = 0;
-    private static int checks = 0;
-
+public final class PromiseTest extends Checks {
     public static void main(String[] args) {
-        constants();
-        promise1NewObject();
-        promise2AddRow();
-        promise3DropRow();
-        promise4Put();
-        promises5To9Numbers();
-        promise10Kinds();
-        promise11Force();
-        promise12Unforce();
-        promise13Wish();
-        promise14WishMark();
-        promises15And16ForbidAndAllow();
-        promise17SetWeight();
-        promise18Allowed();
-        promises19To23Ranking();
-        promise19Costs();
-        promise20CostByTrying();
-        promise24SetMargin();
-        promise25Pick();
-        promises26To28ThePick();
-        promises29To31FormerPicks();
-        promises32To34Draft();
-        promise35BrokenRule();
-        promise36SoftRules();
-        promises37And38DraftCostAndRank();
-        promise39IsSound();
-        System.out.println(checks + " checks, " + wrong + " wrong");
-        if (wrong != 0) {
-            System.exit(1);
-        }
-    }
-
-    // ---- helpers
-
-    private static void due(String what, Object got, Object want) {
-        checks++;
-        if (!Objects.equals(got, want)) {
-            wrong++;
-            System.out.println(what + ": answered " + got + ", due is " + want);
-        }
-    }
-
-    /** The call throws exactly this exception, and nothing that can be asked is another answer afterwards. */
-    private static void dueThrow(String what, Plotwise p, Class<?> kind, Callable<?> call) {
-        String before = state(p);
-        Object got;
-        try {
-            got = call.call();
-        } catch (Exception e) {
-            got = e.getClass();
-        }
-        due(what, got, kind);
-        due(what + ", the state afterwards", state(p), before);
-    }
-
-    private static final Class<?> INDEX = IndexOutOfBoundsException.class;
-    private static final Class<?> ARGUMENT = IllegalArgumentException.class;
-    private static final Class<?> STATE = IllegalStateException.class;
-    private static final Class<?> NO_ELEMENT = NoSuchElementException.class;
-    private static final Class<?> ARITHMETIC = ArithmeticException.class;
-    private static final Class<?> UNSUPPORTED = UnsupportedOperationException.class;
-
-    private static Object answer(Callable<?> call) {
-        try {
-            return call.call();
-        } catch (Exception e) {
-            return e.getClass().getSimpleName();
-        }
-    }
-
-    /** All that can be asked without changing anything. */
-    private static String state(Plotwise p) {
-        StringBuilder s = new StringBuilder();
-        s.append(p.rows()).append(' ').append(p.allowed()).append(' ').append(p.isSound());
-        for (int c = 0; c < 6; c++) {
-            int column = c;
-            s.append(" c").append(p.different(c)).append(' ').append(p.sumOf(c)).append(' ').append(p.kindOf(c));
-            s.append(' ').append(answer(() -> p.meanOf(column))).append(' ').append(answer(() -> p.filled(column)));
-        }
-        for (int r = 0; r < 6; r++) {
-            int rank = r;
-            s.append(" r").append(answer(() -> ranked(p, rank)));
-        }
-        s.append(" p").append(answer(() -> picked(p))).append(' ').append(p.formerPicks());
-        s.append(" d").append(p.brokenRule()).append(' ').append(p.softRules());
-        s.append(' ').append(answer(p::draftCost)).append(' ').append(answer(p::draftRank));
-        return s.toString();
-    }
-
-    private static String ranked(Plotwise p, int rank) {
-        return p.cost(rank) + ":" + p.mark(rank) + p.aggregate(rank) + " " + p.column(rank, 0) + " "
-                + p.column(rank, 1) + " " + p.column(rank, 2) + " " + p.column(rank, 3);
-    }
-
-    private static String picked(Plotwise p) {
-        return p.pickMark() + "" + p.pickAggregate() + " " + p.pickColumn(0) + " " + p.pickColumn(1) + " "
-                + p.pickColumn(2) + " " + p.pickColumn(3);
-    }
-
-    private static void draft(Plotwise p, char mark, int aggregate, int x, int y, int colour, int size) {
-        p.draftMark(mark);
-        p.draftAggregate(aggregate);
-        for (int channel = 0; channel < 4; channel++) {
-            p.draftColumn(channel, -1);
-        }
-        p.draftColumn(0, x);
-        p.draftColumn(1, y);
-        p.draftColumn(2, colour);
-        p.draftColumn(3, size);
-    }
-
-    /** Columns 0 to 5: TIME, CATEGORY, CATEGORY, QUANTITY, QUANTITY, CONSTANT. */
-    private static Plotwise sample() {
-        Plotwise p = new Plotwise();
-        p.addRow(1, 1, 1, 10, 7, 5);
-        p.addRow(2, 2, 1, 30, 9, 5);
-        p.addRow(3, 1, 2, 20, 4, 5);
-        p.addRow(4, 2, 2, 50, 6, 5);
-        p.addRow(5, 1, 1, 40, 2, GAP);
-        p.addRow(6, 2, 2, 60, 8, GAP);
-        return p;
-    }
-
-    /** Column 0 holds the values, the others none. */
-    private static Plotwise withValues(int... values) {
-        Plotwise p = new Plotwise();
-        for (int value : values) {
-            p.addRow(value, GAP, GAP, GAP, GAP, GAP);
-        }
-        return p;
+        test("constants", PromiseTest::constants);
+        test("promise1NewObject", PromiseTest::promise1NewObject);
+        test("promise2AddRow", PromiseTest::promise2AddRow);
+        test("promise3DropRow", PromiseTest::promise3DropRow);
+        test("promise4Put", PromiseTest::promise4Put);
+        test("promises5To9Numbers", PromiseTest::promises5To9Numbers);
+        test("promise10Kinds", PromiseTest::promise10Kinds);
+        test("promise11Force", PromiseTest::promise11Force);
+        test("promise12Unforce", PromiseTest::promise12Unforce);
+        test("promise13Wish", PromiseTest::promise13Wish);
+        test("promise14WishMark", PromiseTest::promise14WishMark);
+        test("promises15And16ForbidAndAllow", PromiseTest::promises15And16ForbidAndAllow);
+        test("promise17SetWeight", PromiseTest::promise17SetWeight);
+        test("promise18Allowed", PromiseTest::promise18Allowed);
+        test("promises19To23Ranking", PromiseTest::promises19To23Ranking);
+        test("promise19Costs", PromiseTest::promise19Costs);
+        test("promise20CostByTrying", PromiseTest::promise20CostByTrying);
+        test("promise24SetMargin", PromiseTest::promise24SetMargin);
+        test("promise25Pick", PromiseTest::promise25Pick);
+        test("promises26To28ThePick", PromiseTest::promises26To28ThePick);
+        test("promises29To31FormerPicks", PromiseTest::promises29To31FormerPicks);
+        test("promises32To34Draft", PromiseTest::promises32To34Draft);
+        test("promise35BrokenRule", PromiseTest::promise35BrokenRule);
+        test("promise36SoftRules", PromiseTest::promise36SoftRules);
+        test("promises37And38DraftCostAndRank", PromiseTest::promises37And38DraftCostAndRank);
+        test("promise39IsSound", PromiseTest::promise39IsSound);
+        finish();
     }
 
     // ---- the promises
@@ -157,7 +47,7 @@ public final class PromiseTest {
         due("1 rows", p.rows(), 0);
         due("1 allowed", p.allowed(), 0);
         due("1 kind", p.kindOf(0), Plotwise.EMPTY);
-        due("1 no pick", answer(p::pickMark), "IllegalStateException");
+        dueThrow("1 no pick", p, STATE, Plotwise::pickMark);
         due("1 former picks", p.formerPicks(), 0);
         due("1 draft mark", p.draftMark('p'), 'b');
         due("1 draft aggregate", p.draftAggregate(1), 0);
@@ -186,18 +76,18 @@ public final class PromiseTest {
             due("2 value below " + column, p.put(1, column, 1), column + 1);
         }
         for (int bad : new int[] {10000, -10001, Integer.MAX_VALUE, Integer.MIN_VALUE}) {
-            dueThrow("2 a", p, ARGUMENT, () -> p.addRow(bad, 0, 0, 0, 0, 0));
-            dueThrow("2 b", p, ARGUMENT, () -> p.addRow(0, bad, 0, 0, 0, 0));
-            dueThrow("2 c", p, ARGUMENT, () -> p.addRow(0, 0, bad, 0, 0, 0));
-            dueThrow("2 d", p, ARGUMENT, () -> p.addRow(0, 0, 0, bad, 0, 0));
-            dueThrow("2 e", p, ARGUMENT, () -> p.addRow(0, 0, 0, 0, bad, 0));
-            dueThrow("2 f", p, ARGUMENT, () -> p.addRow(0, 0, 0, 0, 0, bad));
+            dueThrow("2 a", p, ARGUMENT, o -> o.addRow(bad, 0, 0, 0, 0, 0));
+            dueThrow("2 b", p, ARGUMENT, o -> o.addRow(0, bad, 0, 0, 0, 0));
+            dueThrow("2 c", p, ARGUMENT, o -> o.addRow(0, 0, bad, 0, 0, 0));
+            dueThrow("2 d", p, ARGUMENT, o -> o.addRow(0, 0, 0, bad, 0, 0));
+            dueThrow("2 e", p, ARGUMENT, o -> o.addRow(0, 0, 0, 0, bad, 0));
+            dueThrow("2 f", p, ARGUMENT, o -> o.addRow(0, 0, 0, 0, 0, bad));
         }
         for (int row = 3; row <= 40; row++) {
             due("2 rows", p.addRow(row, 0, 0, 0, 0, 0), row);
         }
-        dueThrow("2 full", p, STATE, () -> p.addRow(0, 0, 0, 0, 0, 0));
-        dueThrow("2 full and wrong", p, ARGUMENT, () -> p.addRow(0, 0, 0, 0, 0, 10000));
+        dueThrow("2 full", p, STATE, o -> o.addRow(0, 0, 0, 0, 0, 0));
+        dueThrow("2 full and wrong", p, ARGUMENT, o -> o.addRow(0, 0, 0, 0, 0, 10000));
         p.dropRow(39);
         due("2 room again", p.addRow(77, 0, 0, 0, 0, 0), 40);
         due("2 behind the others", p.put(39, 0, 0), 77);
@@ -205,8 +95,8 @@ public final class PromiseTest {
 
     private static void promise3DropRow() {
         Plotwise p = sample();
-        dueThrow("3 below", p, INDEX, () -> p.dropRow(-1));
-        dueThrow("3 behind", p, INDEX, () -> p.dropRow(6));
+        dueThrow("3 below", p, INDEX, o -> o.dropRow(-1));
+        dueThrow("3 behind", p, INDEX, o -> o.dropRow(6));
         due("3 drop", p.dropRow(1), 5);
         due("3 stays", p.put(0, 3, 10), 10);
         due("3 moved", p.put(1, 3, 20), 20);
@@ -220,7 +110,7 @@ public final class PromiseTest {
         p.dropRow(0);
         due("3 to none", p.dropRow(0), 0);
         due("3 kind", p.kindOf(3), Plotwise.EMPTY);
-        dueThrow("3 none", p, INDEX, () -> p.dropRow(0));
+        dueThrow("3 none", p, INDEX, o -> o.dropRow(0));
         p.addRow(GAP, 1, 1, 1, 1, 1);
         due("3 nothing is left behind", p.put(0, 0, 1), GAP);
     }
@@ -234,14 +124,14 @@ public final class PromiseTest {
         due("4 others stay", p.sumOf(3), 201L);
         due("4 last row", p.put(5, 5, 4), GAP);
         due("4 kind follows", p.kindOf(5), Plotwise.CATEGORY);
-        dueThrow("4 row below", p, INDEX, () -> p.put(-1, 0, 0));
-        dueThrow("4 row behind", p, INDEX, () -> p.put(6, 0, 0));
-        dueThrow("4 column below", p, INDEX, () -> p.put(0, -1, 0));
-        dueThrow("4 column behind", p, INDEX, () -> p.put(0, 6, 0));
-        dueThrow("4 value above", p, ARGUMENT, () -> p.put(0, 0, 10000));
-        dueThrow("4 value below", p, ARGUMENT, () -> p.put(0, 0, -10001));
-        dueThrow("4 row first", p, INDEX, () -> p.put(6, 0, 10000));
-        dueThrow("4 column first", p, INDEX, () -> p.put(0, 6, 10000));
+        dueThrow("4 row below", p, INDEX, o -> o.put(-1, 0, 0));
+        dueThrow("4 row behind", p, INDEX, o -> o.put(6, 0, 0));
+        dueThrow("4 column below", p, INDEX, o -> o.put(0, -1, 0));
+        dueThrow("4 column behind", p, INDEX, o -> o.put(0, 6, 0));
+        dueThrow("4 value above", p, ARGUMENT, o -> o.put(0, 0, 10000));
+        dueThrow("4 value below", p, ARGUMENT, o -> o.put(0, 0, -10001));
+        dueThrow("4 row first", p, INDEX, o -> o.put(6, 0, 10000));
+        dueThrow("4 column first", p, INDEX, o -> o.put(0, 6, 10000));
     }
 
     private static void promises5To9Numbers() {
@@ -249,8 +139,8 @@ public final class PromiseTest {
         due("5 none", p.rows(), 0);
         due("6 none", p.different(0), 0);
         due("7 none", p.sumOf(0), 0L);
-        dueThrow("8 no rows", p, ARITHMETIC, () -> p.meanOf(0));
-        dueThrow("9 no rows", p, ARITHMETIC, () -> p.filled(0));
+        dueThrow("8 no rows", p, ARITHMETIC, o -> o.meanOf(0));
+        dueThrow("9 no rows", p, ARITHMETIC, o -> o.filled(0));
         p.addRow(5, GAP, 9999, 0, 0, 0);
         p.addRow(5, GAP, 9999, 0, 0, 0);
         p.addRow(-6, GAP, GAP, 0, 0, 0);
@@ -263,19 +153,19 @@ public final class PromiseTest {
         due("7 no values", p.sumOf(1), 0L);
         due("8", p.meanOf(0), 4.0 / 3.0);
         due("8 gaps", p.meanOf(2), 9999.0);
-        dueThrow("8 no values", p, ARITHMETIC, () -> p.meanOf(1));
+        dueThrow("8 no values", p, ARITHMETIC, o -> o.meanOf(1));
         due("9 all", p.filled(0), 1.0f);
         due("9", p.filled(2), 2.0f / 3.0f);
         due("9 no values", p.filled(1), 0.0f);
         for (int bad : new int[] {-1, 6, Integer.MAX_VALUE, Integer.MIN_VALUE}) {
-            dueThrow("6 column", p, INDEX, () -> p.different(bad));
-            dueThrow("7 column", p, INDEX, () -> p.sumOf(bad));
-            dueThrow("8 column", p, INDEX, () -> p.meanOf(bad));
-            dueThrow("9 column", p, INDEX, () -> p.filled(bad));
+            dueThrow("6 column", p, INDEX, o -> o.different(bad));
+            dueThrow("7 column", p, INDEX, o -> o.sumOf(bad));
+            dueThrow("8 column", p, INDEX, o -> o.meanOf(bad));
+            dueThrow("9 column", p, INDEX, o -> o.filled(bad));
         }
         Plotwise none = new Plotwise();
-        dueThrow("8 column first", none, INDEX, () -> none.meanOf(6));
-        dueThrow("9 column first", none, INDEX, () -> none.filled(-1));
+        dueThrow("8 column first", none, INDEX, o -> o.meanOf(6));
+        dueThrow("9 column first", none, INDEX, o -> o.filled(-1));
     }
 
     private static void promise10Kinds() {
@@ -299,8 +189,8 @@ public final class PromiseTest {
         for (int column = 0; column < 6; column++) {
             due("10 column " + column, p.kindOf(column), kinds[column]);
         }
-        dueThrow("10 below", p, INDEX, () -> p.kindOf(-1));
-        dueThrow("10 behind", p, INDEX, () -> p.kindOf(6));
+        dueThrow("10 below", p, INDEX, o -> o.kindOf(-1));
+        dueThrow("10 behind", p, INDEX, o -> o.kindOf(6));
     }
 
     private static void promise11Force() {
@@ -319,24 +209,24 @@ public final class PromiseTest {
         due("11 no longer empty", none.kindOf(0), Plotwise.TIME);
         due("11 the other columns", none.kindOf(1), Plotwise.CONSTANT);
         for (int kind : new int[] {Plotwise.EMPTY, Plotwise.CONSTANT, -1, 5}) {
-            dueThrow("11 kind " + kind, p, ARGUMENT, () -> p.force(1, kind));
+            dueThrow("11 kind " + kind, p, ARGUMENT, o -> o.force(1, kind));
         }
-        dueThrow("11 below", p, INDEX, () -> p.force(-1, Plotwise.TIME));
-        dueThrow("11 behind", p, INDEX, () -> p.force(6, Plotwise.TIME));
-        dueThrow("11 column first", p, INDEX, () -> p.force(6, 0));
+        dueThrow("11 below", p, INDEX, o -> o.force(-1, Plotwise.TIME));
+        dueThrow("11 behind", p, INDEX, o -> o.force(6, Plotwise.TIME));
+        dueThrow("11 column first", p, INDEX, o -> o.force(6, 0));
     }
 
     private static void promise12Unforce() {
         Plotwise p = sample();
-        dueThrow("12 not forced", p, STATE, () -> p.unforce(0));
+        dueThrow("12 not forced", p, STATE, o -> o.unforce(0));
         p.force(0, Plotwise.CATEGORY);
         p.force(0, Plotwise.QUANTITY);
         due("12 back", p.unforce(0), Plotwise.TIME);
-        dueThrow("12 twice", p, STATE, () -> p.unforce(0));
+        dueThrow("12 twice", p, STATE, o -> o.unforce(0));
         p.force(5, Plotwise.TIME);
         due("12 constant", p.unforce(5), Plotwise.CONSTANT);
-        dueThrow("12 below", p, INDEX, () -> p.unforce(-1));
-        dueThrow("12 behind", p, INDEX, () -> p.unforce(6));
+        dueThrow("12 below", p, INDEX, o -> o.unforce(-1));
+        dueThrow("12 behind", p, INDEX, o -> o.unforce(6));
     }
 
     private static void promise13Wish() {
@@ -350,8 +240,8 @@ public final class PromiseTest {
         due("13 none", p.wish(3, false), 0);
         p.wish(5, true);
         due("13 a constant one", p.allowed(), 0);
-        dueThrow("13 below", p, INDEX, () -> p.wish(-1, true));
-        dueThrow("13 behind", p, INDEX, () -> p.wish(6, false));
+        dueThrow("13 below", p, INDEX, o -> o.wish(-1, true));
+        dueThrow("13 behind", p, INDEX, o -> o.wish(6, false));
     }
 
     private static void promise14WishMark() {
@@ -363,9 +253,9 @@ public final class PromiseTest {
             due("14 all lines", p.mark(rank), 'l');
         }
         due("14 bars", p.wishMark('b'), 'l');
-        dueThrow("14 other", p, ARGUMENT, () -> p.wishMark('x'));
-        dueThrow("14 zero", p, ARGUMENT, () -> p.wishMark((char) 0));
-        dueThrow("14 capital", p, ARGUMENT, () -> p.wishMark('B'));
+        dueThrow("14 other", p, ARGUMENT, o -> o.wishMark('x'));
+        dueThrow("14 zero", p, ARGUMENT, o -> o.wishMark((char) 0));
+        dueThrow("14 capital", p, ARGUMENT, o -> o.wishMark('B'));
         due("14 none", p.wishMark('-'), 'b');
         due("14 none again", p.wishMark('-'), '-');
     }
@@ -375,19 +265,19 @@ public final class PromiseTest {
         due("15 before", p.column(0, 0), 0);
         due("15 first", p.forbid(0, 0), 1);
         due("15 best", p.column(0, 0) != 0, true);
-        dueThrow("15 again", p, STATE, () -> p.forbid(0, 0));
+        dueThrow("15 again", p, STATE, o -> o.forbid(0, 0));
         due("15 second", p.forbid(5, 3), 2);
-        dueThrow("16 not forbidden", p, STATE, () -> p.allow(3, 1));
+        dueThrow("16 not forbidden", p, STATE, o -> o.allow(3, 1));
         due("16", p.allow(0, 0), 1);
         due("16 best", p.column(0, 0), 0);
-        dueThrow("16 again", p, STATE, () -> p.allow(0, 0));
+        dueThrow("16 again", p, STATE, o -> o.allow(0, 0));
         for (int bad : new int[] {-1, 6, Integer.MAX_VALUE}) {
-            dueThrow("15 column", p, INDEX, () -> p.forbid(bad, 0));
-            dueThrow("16 column", p, INDEX, () -> p.allow(bad, 0));
+            dueThrow("15 column", p, INDEX, o -> o.forbid(bad, 0));
+            dueThrow("16 column", p, INDEX, o -> o.allow(bad, 0));
         }
         for (int bad : new int[] {-1, 4, Integer.MIN_VALUE}) {
-            dueThrow("15 channel", p, INDEX, () -> p.forbid(5, bad));
-            dueThrow("16 channel", p, INDEX, () -> p.allow(5, bad));
+            dueThrow("15 channel", p, INDEX, o -> o.forbid(5, bad));
+            dueThrow("16 channel", p, INDEX, o -> o.allow(5, bad));
         }
         Plotwise all = sample();
         int forbidden = 0;
@@ -410,12 +300,12 @@ public final class PromiseTest {
             due("17 then " + rule, p.setWeight(rule, 0), 99);
             due("17 back " + rule, p.setWeight(rule, weights[rule]), 0);
             int r = rule;
-            dueThrow("17 above", p, ARGUMENT, () -> p.setWeight(r, 100));
-            dueThrow("17 below", p, ARGUMENT, () -> p.setWeight(r, -1));
+            dueThrow("17 above", p, ARGUMENT, o -> o.setWeight(r, 100));
+            dueThrow("17 below", p, ARGUMENT, o -> o.setWeight(r, -1));
         }
-        dueThrow("17 no rule -1", p, INDEX, () -> p.setWeight(-1, 0));
-        dueThrow("17 no rule 8", p, INDEX, () -> p.setWeight(8, 0));
-        dueThrow("17 rule first", p, INDEX, () -> p.setWeight(8, 100));
+        dueThrow("17 no rule -1", p, INDEX, o -> o.setWeight(-1, 0));
+        dueThrow("17 no rule 8", p, INDEX, o -> o.setWeight(8, 0));
+        dueThrow("17 rule first", p, INDEX, o -> o.setWeight(8, 100));
         draft(p, 'b', 0, 0, 3, -1, -1);
         due("17 cost before", p.draftCost(), 3);
         p.setWeight(0, 98);
@@ -446,24 +336,24 @@ public final class PromiseTest {
             due("19 to 23, rank " + rank, ranked(p, rank), ranking[rank]);
         }
         for (int bad : new int[] {-1, 5, Integer.MAX_VALUE, Integer.MIN_VALUE}) {
-            dueThrow("19 rank", p, NO_ELEMENT, () -> p.cost(bad));
-            dueThrow("21 rank", p, NO_ELEMENT, () -> p.mark(bad));
-            dueThrow("22 rank", p, NO_ELEMENT, () -> p.aggregate(bad));
-            dueThrow("23 rank", p, NO_ELEMENT, () -> p.column(bad, 0));
-            dueThrow("23 rank first", p, NO_ELEMENT, () -> p.column(bad, 4));
+            dueThrow("19 rank", p, NO_ELEMENT, o -> o.cost(bad));
+            dueThrow("21 rank", p, NO_ELEMENT, o -> o.mark(bad));
+            dueThrow("22 rank", p, NO_ELEMENT, o -> o.aggregate(bad));
+            dueThrow("23 rank", p, NO_ELEMENT, o -> o.column(bad, 0));
+            dueThrow("23 rank first", p, NO_ELEMENT, o -> o.column(bad, 4));
         }
-        dueThrow("23 channel below", p, INDEX, () -> p.column(0, -1));
-        dueThrow("23 channel behind", p, INDEX, () -> p.column(4, 4));
+        dueThrow("23 channel below", p, INDEX, o -> o.column(0, -1));
+        dueThrow("23 channel behind", p, INDEX, o -> o.column(4, 4));
         // a ranking of fewer than five
         Plotwise few = withValues(1, 2, 1, 2);
         String[] short4 = {"2:b1 0 -1 -1 -1", "2:p0 0 -1 -1 -1", "3:p0 -1 0 -1 -1", "5:p1 0 -1 -1 -1"};
         for (int rank = 0; rank < 4; rank++) {
             due("19 few, rank " + rank, ranked(few, rank), short4[rank]);
         }
-        dueThrow("19 few", few, NO_ELEMENT, () -> few.cost(4));
+        dueThrow("19 few", few, NO_ELEMENT, o -> o.cost(4));
         Plotwise none = new Plotwise();
-        dueThrow("19 none", none, NO_ELEMENT, () -> none.cost(0));
-        dueThrow("23 none", none, NO_ELEMENT, () -> none.column(0, 9));
+        dueThrow("19 none", none, NO_ELEMENT, o -> o.cost(0));
+        dueThrow("23 none", none, NO_ELEMENT, o -> o.column(0, 9));
     }
 
     private static void promise19Costs() {
@@ -506,13 +396,13 @@ public final class PromiseTest {
     private static void dueCost(Plotwise p, String what, char mark, int aggregate, int x, int y, int colour, int size,
             int want) {
         draft(p, mark, aggregate, x, y, colour, size);
-        due("cost: " + what, answer(p::draftCost), want);
+        due("cost: " + what, p.draftCost(), want);
     }
 
     private static void promise20CostByTrying() {
         Plotwise p = sample();
-        dueThrow("20 five columns", p, UNSUPPORTED, () -> p.costByTrying(0));
-        dueThrow("20 columns first", p, UNSUPPORTED, () -> p.costByTrying(9));
+        dueThrow("20 five columns", p, UNSUPPORTED, o -> o.costByTrying(0));
+        dueThrow("20 columns first", p, UNSUPPORTED, o -> o.costByTrying(9));
         Plotwise q = new Plotwise();
         for (int row = 0; row < 6; row++) {
             q.addRow(row, row % 2, row * row % 7, 7, GAP, 7);
@@ -521,26 +411,26 @@ public final class PromiseTest {
             due("20 rank " + rank, q.costByTrying(rank), q.cost(rank));
         }
         due("20 worth", q.costByTrying(0), 0);
-        dueThrow("20 below", q, NO_ELEMENT, () -> q.costByTrying(-1));
-        dueThrow("20 behind", q, NO_ELEMENT, () -> q.costByTrying(5));
+        dueThrow("20 below", q, NO_ELEMENT, o -> o.costByTrying(-1));
+        dueThrow("20 behind", q, NO_ELEMENT, o -> o.costByTrying(5));
         q.put(0, 3, 8);
-        dueThrow("20 four columns", q, UNSUPPORTED, () -> q.costByTrying(0));
+        dueThrow("20 four columns", q, UNSUPPORTED, o -> o.costByTrying(0));
         Plotwise none = new Plotwise();
-        dueThrow("20 none", none, NO_ELEMENT, () -> none.costByTrying(0));
+        dueThrow("20 none", none, NO_ELEMENT, o -> o.costByTrying(0));
     }
 
     private static void promise24SetMargin() {
         Plotwise p = sample();
         due("24 first", p.setMargin(0), 3);
         due("24 then", p.setMargin(99), 0);
-        dueThrow("24 below", p, ARGUMENT, () -> p.setMargin(-1));
-        dueThrow("24 above", p, ARGUMENT, () -> p.setMargin(100));
+        dueThrow("24 below", p, ARGUMENT, o -> o.setMargin(-1));
+        dueThrow("24 above", p, ARGUMENT, o -> o.setMargin(100));
         due("24 kept", p.setMargin(3), 99);
     }
 
     private static void promise25Pick() {
         Plotwise none = new Plotwise();
-        dueThrow("25 none", none, NO_ELEMENT, none::pick);
+        dueThrow("25 none", none, NO_ELEMENT, Plotwise::pick);
         Plotwise p = sample();
         due("25 first", p.pick(), true);
         due("25 the best", picked(p), "b2 0 3 -1 -1");
@@ -559,16 +449,16 @@ public final class PromiseTest {
         due("25 past the margin", p.pick(), true);
         due("25 the best again", picked(p), "b2 0 3 -1 -1");
         p.wish(5, true);
-        dueThrow("25 nothing allowed", p, NO_ELEMENT, p::pick);
+        dueThrow("25 nothing allowed", p, NO_ELEMENT, Plotwise::pick);
         due("25 kept", picked(p), "b2 0 3 -1 -1");
     }
 
     private static void promises26To28ThePick() {
         Plotwise p = sample();
-        dueThrow("26 none", p, STATE, p::pickMark);
-        dueThrow("27 none", p, STATE, p::pickAggregate);
-        dueThrow("28 none", p, STATE, () -> p.pickColumn(0));
-        dueThrow("28 channel first", p, INDEX, () -> p.pickColumn(4));
+        dueThrow("26 none", p, STATE, Plotwise::pickMark);
+        dueThrow("27 none", p, STATE, Plotwise::pickAggregate);
+        dueThrow("28 none", p, STATE, o -> o.pickColumn(0));
+        dueThrow("28 channel first", p, INDEX, o -> o.pickColumn(4));
         p.wishMark('p');
         p.wish(1, true);
         p.wish(3, true);
@@ -578,8 +468,8 @@ public final class PromiseTest {
                 + p.column(0, 2) + " " + p.column(0, 3);
         due("26 to 28", picked(p), best);
         due("26", p.pickMark(), 'p');
-        dueThrow("28 below", p, INDEX, () -> p.pickColumn(-1));
-        dueThrow("28 behind", p, INDEX, () -> p.pickColumn(4));
+        dueThrow("28 below", p, INDEX, o -> o.pickColumn(-1));
+        dueThrow("28 behind", p, INDEX, o -> o.pickColumn(4));
         p.wishMark('b');
         due("26 to 28 not allowed now", picked(p), best);
         while (p.rows() > 0) {
@@ -590,10 +480,10 @@ public final class PromiseTest {
 
     private static void promises29To31FormerPicks() {
         Plotwise p = sample();
-        dueThrow("30 none", p, STATE, p::unpick);
+        dueThrow("30 none", p, STATE, Plotwise::unpick);
         p.pick();
         due("29 none yet", p.formerPicks(), 0);
-        dueThrow("30 only the pick", p, STATE, p::unpick);
+        dueThrow("30 only the pick", p, STATE, Plotwise::unpick);
         String[] picks = new String[7];
         picks[0] = picked(p);
         for (int i = 1; i < 7; i++) {
@@ -606,7 +496,7 @@ public final class PromiseTest {
             due("30 left", p.unpick(), i - 2);
             due("30 back", picked(p), picks[i]);
         }
-        dueThrow("30 no more", p, STATE, p::unpick);
+        dueThrow("30 no more", p, STATE, Plotwise::unpick);
         p.wishMark('-');
 
         Plotwise q = sample();
@@ -634,30 +524,30 @@ public final class PromiseTest {
         due("32 line", p.draftMark('l'), 'b');
         due("32 points", p.draftMark('p'), 'l');
         due("32 bars", p.draftMark('b'), 'p');
-        dueThrow("32 none", p, ARGUMENT, () -> p.draftMark('-'));
-        dueThrow("32 other", p, ARGUMENT, () -> p.draftMark((char) 226));
+        dueThrow("32 none", p, ARGUMENT, o -> o.draftMark('-'));
+        dueThrow("32 other", p, ARGUMENT, o -> o.draftMark((char) 226));
         due("33 mean", p.draftAggregate(2), 0);
         due("33 count", p.draftAggregate(1), 2);
         due("33 none", p.draftAggregate(0), 1);
-        dueThrow("33 below", p, ARGUMENT, () -> p.draftAggregate(-1));
-        dueThrow("33 above", p, ARGUMENT, () -> p.draftAggregate(3));
+        dueThrow("33 below", p, ARGUMENT, o -> o.draftAggregate(-1));
+        dueThrow("33 above", p, ARGUMENT, o -> o.draftAggregate(3));
         due("34 X", p.draftColumn(0, 5), -1);
         due("34 the same", p.draftColumn(0, 5), 5);
-        dueThrow("34 another channel", p, STATE, () -> p.draftColumn(3, 5));
+        dueThrow("34 another channel", p, STATE, o -> o.draftColumn(3, 5));
         due("34 another column", p.draftColumn(0, 0), 5);
         due("34 free again", p.draftColumn(3, 5), -1);
         due("34 Y", p.draftColumn(1, 3), -1);
         due("34 COLOUR", p.draftColumn(2, 1), -1);
-        dueThrow("34 Y is there", p, STATE, () -> p.draftColumn(2, 3));
+        dueThrow("34 Y is there", p, STATE, o -> o.draftColumn(2, 3));
         due("34 take", p.draftColumn(3, -1), 5);
         due("34 take nothing", p.draftColumn(3, -1), -1);
         due("34 mark and aggregate stay", p.draftMark('b') + "" + p.draftAggregate(0), "b0");
         due("34 the others stay", p.draftColumn(0, 0) + " " + p.draftColumn(1, 3) + " " + p.draftColumn(2, 1), "0 3 1");
-        dueThrow("34 channel below", p, INDEX, () -> p.draftColumn(-1, 0));
-        dueThrow("34 channel behind", p, INDEX, () -> p.draftColumn(4, 0));
-        dueThrow("34 column below", p, INDEX, () -> p.draftColumn(3, -2));
-        dueThrow("34 column behind", p, INDEX, () -> p.draftColumn(3, 6));
-        dueThrow("34 channel first", p, INDEX, () -> p.draftColumn(4, 3));
+        dueThrow("34 channel below", p, INDEX, o -> o.draftColumn(-1, 0));
+        dueThrow("34 channel behind", p, INDEX, o -> o.draftColumn(4, 0));
+        dueThrow("34 column below", p, INDEX, o -> o.draftColumn(3, -2));
+        dueThrow("34 column behind", p, INDEX, o -> o.draftColumn(3, 6));
+        dueThrow("34 channel first", p, INDEX, o -> o.draftColumn(4, 3));
     }
 
     private static void promise35BrokenRule() {
@@ -749,8 +639,8 @@ public final class PromiseTest {
 
     private static void promises37And38DraftCostAndRank() {
         Plotwise p = sample();
-        dueThrow("37 not allowed", p, STATE, p::draftCost);
-        dueThrow("38 not allowed", p, STATE, p::draftRank);
+        dueThrow("37 not allowed", p, STATE, Plotwise::draftCost);
+        dueThrow("38 not allowed", p, STATE, Plotwise::draftRank);
         for (int rank = 0; rank < 5; rank++) {
             draft(p, p.mark(rank), p.aggregate(rank), p.column(rank, 0), p.column(rank, 1), p.column(rank, 2),
                     p.column(rank, 3));
@@ -765,8 +655,8 @@ public final class PromiseTest {
         draft(few, 'b', 1, 0, -1, -1, -1);
         due("38 the first", few.draftRank(), 0);
         few.wishMark('p');
-        dueThrow("37 not wished", few, STATE, few::draftCost);
-        dueThrow("38 not wished", few, STATE, few::draftRank);
+        dueThrow("37 not wished", few, STATE, Plotwise::draftCost);
+        dueThrow("38 not wished", few, STATE, Plotwise::draftRank);
     }
 
     private static void promise39IsSound() {
