@@ -30,6 +30,7 @@ public final class DraftBoundaryTest extends Checks {
         for (char bad : new char[] {'-', 'a', 'c', 'k', 'm', 'o', 'q', 'B', 'L', 'P', ' ', 0, 'b' + 128, 'l' + 128,
             'p' + 128, 'b' + 256, 'l' + 256, 'p' + 256, 0xffff}) {
             refused("32: no mark " + (int) bad, ARGUMENT, Checks::rich, p -> p.draftMark(bad));
+            refused("32: no mark " + (int) bad + " in a new draft", ARGUMENT, Plotwise::new, p -> p.draftMark(bad));
         }
     }
 
@@ -53,6 +54,7 @@ public final class DraftBoundaryTest extends Checks {
         });
         for (int bad : new int[] {-1, 3, 4, MIN, MAX}) {
             refused("33: no aggregate " + bad, ARGUMENT, Checks::rich, p -> p.draftAggregate(bad));
+            refused("33: no aggregate " + bad + " in a new draft", ARGUMENT, Plotwise::new, p -> p.draftAggregate(bad));
         }
     }
 
@@ -94,7 +96,7 @@ public final class DraftBoundaryTest extends Checks {
                 p.draftColumn(ch, NO);
                 due("twice", p.draftColumn(ch, NO), NO);
             }
-            due(drafted(p), "p0 -1 -1 -1 -1");
+            due(drafted(p), "p2 -1 -1 -1 -1");
         });
     }
 

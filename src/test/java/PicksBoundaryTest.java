@@ -141,6 +141,18 @@ public final class PicksBoundaryTest extends Checks {
         dueGoes("it costs 99 more, the margin is 98", () -> withMargin(pickThatCosts(99), 98));
         dueStays("it costs 4 and the best one 1", () -> withFiveGaps(pickThatCosts(3)));
         dueGoes("it costs 5 and the best one 1", () -> withFiveGaps(pickThatCosts(4)));
+        test("25: it costs as much as the second best, and 1 more than the best one", () -> {
+            Plotwise p = withValues(2, 1);
+            p.wishMark('l');
+            p.pick();
+            p.wishMark('-');
+            due(ranking(p), "1:p0 -1 0 -1 -1, 2:l1 0 -1 -1 -1, 2:p0 0 -1 -1 -1, 5:p1 0 -1 -1 -1");
+            p.setMargin(1);
+            due(p.pick(), false);
+            p.setMargin(0);
+            due(p.pick(), true);
+            due(picked(p), "p0 -1 0 -1 -1");
+        });
         test("25: the margin of now counts", () -> {
             Plotwise p = pickThatCosts(5);
             p.setMargin(5);

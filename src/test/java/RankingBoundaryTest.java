@@ -430,11 +430,11 @@ public final class RankingBoundaryTest extends Checks {
     private static void dueAtOnce(String name, Maker maker, Call change) {
         test("18 to 23 after " + name, () -> {
             Plotwise asked = maker.make();
-            String before = asked(asked);
+            String before = ranking(asked);
             change.of(asked);
             Plotwise unasked = maker.make();
             change.of(unasked);
-            due("the call shows", asked(asked).equals(before), false);
+            due("the call shows", ranking(asked).equals(before), false);
             dueAlike(asked, unasked);
         });
     }
@@ -442,7 +442,7 @@ public final class RankingBoundaryTest extends Checks {
     private static void changesShowAtOnce() {
         Maker t = Checks::sample;
         dueAtOnce("addRow", t, p -> p.addRow(0, 0, 0, 0, 0, 9));
-        dueAtOnce("dropRow", t, p -> p.dropRow(0));
+        dueAtOnce("dropRow", () -> withValues(1, 2, 3, 4), p -> p.dropRow(0));
         dueAtOnce("put", t, p -> p.put(0, 0, 9));
         dueAtOnce("force", t, p -> p.force(0, QUANTITY));
         dueAtOnce("unforce", () -> {

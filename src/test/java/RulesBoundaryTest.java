@@ -142,18 +142,16 @@ public final class RulesBoundaryTest extends Checks {
             }
             due(p.allowed(), oneOfEach().allowed());
         });
-        for (int bad : NO_COLUMNS) {
-            refused("15: no column " + bad, INDEX, Checks::rich, p -> p.forbid(bad, 0));
-            refused("16: no column " + bad, INDEX, Checks::rich, p -> p.allow(bad, 0));
-        }
-        for (int bad : NO_CHANNELS) {
-            refused("15: no channel " + bad, INDEX, Checks::rich, p -> p.forbid(0, bad));
-            refused("16: no channel " + bad, INDEX, Checks::rich, p -> p.allow(0, bad));
-            refused("15: no channel " + bad + " for the last column", INDEX, Checks::rich, p -> p.forbid(5, bad));
-            refused("16: no channel " + bad + " for the last column", INDEX, Checks::rich, p -> p.allow(5, bad));
-            // next to the pair of the column 4 and COLOUR, which is forbidden
-            refused("16: no channel " + bad + " for a column that is forbidden", INDEX, Checks::rich,
-                    p -> p.allow(4, bad));
+        refusedPairs("in a new object", Plotwise::new);
+        refusedPairs("where some are forbidden", Checks::rich);
+        refusedPairs("where all are forbidden", RulesBoundaryTest::allForbidden);
+        for (int i = 0; i < 24; i++) {
+            int column = i / 4;
+            int channel = i % 4;
+            refused("15: forbidden already, " + column + " for " + channel, STATE, RulesBoundaryTest::allForbidden,
+                    p -> p.forbid(column, channel));
+            refused("16: not forbidden, " + column + " for " + channel, STATE, Checks::sample,
+                    p -> p.allow(column, channel));
         }
         refused("15: forbidden already", STATE, Checks::rich, p -> p.forbid(4, COLOUR));
         refused("16: not forbidden", STATE, Checks::rich, p -> p.allow(4, SIZE));
@@ -163,6 +161,29 @@ public final class RulesBoundaryTest extends Checks {
             p.allow(4, COLOUR);
             return p;
         }, p -> p.allow(4, COLOUR));
+    }
+
+    private static Plotwise allForbidden() {
+        Plotwise p = sample();
+        for (int i = 0; i < 24; i++) {
+            p.forbid(i / 4, i % 4);
+        }
+        return p;
+    }
+
+    private static void refusedPairs(String where, Maker maker) {
+        for (int bad : NO_COLUMNS) {
+            for (int channel : new int[] {X, SIZE}) {
+                refused("15: no column " + bad + ", " + where, INDEX, maker, p -> p.forbid(bad, channel));
+                refused("16: no column " + bad + ", " + where, INDEX, maker, p -> p.allow(bad, channel));
+            }
+        }
+        for (int bad : NO_CHANNELS) {
+            for (int column : new int[] {0, 4, 5}) {
+                refused("15: no channel " + bad + ", " + where, INDEX, maker, p -> p.forbid(column, bad));
+                refused("16: no channel " + bad + ", " + where, INDEX, maker, p -> p.allow(column, bad));
+            }
+        }
     }
 
     // ---- promise 17
@@ -425,13 +446,17 @@ public final class RulesBoundaryTest extends Checks {
             int rows = rowsAndCost[0];
             test("costs: " + rows + " rows without a value", () ->
                 due(costOf(withGaps(0, rows, 0, 0), 'l', NONE, 0, 1, NO, NO), rowsAndCost[1]));
+            test("costs: " + rows + " rows without a value, from the last one", () ->
+                due(costOf(withGaps(20 - rows, 20, 0, 0), 'l', NONE, 0, 1, NO, NO), rowsAndCost[1]));
         }
         test("costs: rows where the one or the other column has no value add up", () ->
             due(costOf(withGaps(0, 3, 3, 5), 'p', NONE, 1, 2, NO, NO), 1 + 1));
         test("costs: one row fewer", () ->
             due(costOf(withGaps(0, 3, 3, 4), 'p', NONE, 1, 2, NO, NO), 1 + 0));
-        test("costs: a row where both columns have no value counts once", () ->
+        test("costs: 4 rows where both columns have no value count once each", () ->
             due(costOf(withGaps(0, 4, 0, 4), 'p', NONE, 1, 2, NO, NO), 1 + 0));
+        test("costs: 5 rows where both columns have no value count once each", () ->
+            due(costOf(withGaps(5, 10, 5, 10), 'p', NONE, 1, 2, NO, NO), 1 + 1));
         test("costs: a column that is in no channel does not count", () ->
             due(costOf(withGaps(0, 4, 0, 18), 'l', NONE, 0, 1, NO, NO), 0));
         test("costs: a column in COLOUR counts", () ->

@@ -294,7 +294,8 @@ public final class TableBoundaryTest extends Checks {
                     p -> p.put(0, bad, -10001));
         }
         for (int bad : NO_VALUES) {
-            refused("4: no value " + bad, ARGUMENT, Checks::rich, p -> p.put(5, 5, bad));
+            refused("4: no value " + bad, ARGUMENT, Checks::rich, p -> p.put(5, 3, bad));
+            refused("4: no value " + bad + " where there is none", ARGUMENT, Checks::rich, p -> p.put(5, 5, bad));
         }
         refused("4: no row 0 in an empty table", INDEX, Plotwise::new, p -> p.put(0, 0, 0));
         refused("4: no row 40 in a full table", INDEX, () -> tall(40), p -> p.put(40, 0, 0));

@@ -255,7 +255,7 @@ abstract class Checks {
         p.setWeight(0, 7);
         p.setWeight(7, 0);
         p.setMargin(5);
-        draft(p, 'p', NONE, 0, 3, 1, NO);
+        draft(p, 'p', MEAN, 0, 3, 1, NO);
         return p;
     }
 
